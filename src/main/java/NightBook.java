@@ -127,17 +127,12 @@ public final class NightBook {
     if (!isPerson(person) || !areDays(from, to) || lands < 1 || lands > ALL_LANDS) {
       return WRONG;
     }
-    int refusal = refusalOfMarks(person);
-    return refusal < 0 ? refusal : enter(new Span(markCount, person, from, to, lands));
+    return enter(new Span(markCount, person, from, to, lands));
   }
 
   public int slept(int person, int day, int land, boolean word) {
     if (!isPerson(person) || !isDay(day) || !isLand(land)) {
       return WRONG;
-    }
-    int refusal = refusalOfMarks(person);
-    if (refusal < 0) {
-      return refusal;
     }
     return enter(word ? new Word(markCount, person, day, land) : new Bill(markCount, person, day, land));
   }
@@ -146,8 +141,7 @@ public final class NightBook {
     if (!isPerson(person) || !areDays(from, to) || !isLand(land)) {
       return WRONG;
     }
-    int refusal = refusalOfMarks(person);
-    return refusal < 0 ? refusal : enter(new Stamp(markCount, person, from, to, land));
+    return enter(new Stamp(markCount, person, from, to, land));
   }
 
   public int drop(int mark, boolean is) {
@@ -262,18 +256,13 @@ public final class NightBook {
     return law >= 0 && law < lawCount ? laws[law] : null;
   }
 
-  /** Why no mark of a person can come, whatever it tells; 0 if one can. */
-  private int refusalOfMarks(int person) {
-    if (markCount >= MARKS) {
-      return FULL;
-    }
-    return joined[person] ? IS_JOINED : 0;
-  }
-
   private int enter(Span told) {
     int number = markCount;
     if (number >= MARKS) {
       return FULL;
+    }
+    if (joined[told.person]) {
+      return IS_JOINED;
     }
     marks[number] = told;
     markCount++;
@@ -391,9 +380,7 @@ public final class NightBook {
     if (!isPerson(person) || !isLand(land) || !areDays(a, b) || i < 0) {
       return WRONG;
     }
-    if (travel(person, land, a, b) <= i) {
-      return NONE;
-    }
+    travel(person, land, a, b);
     int before = 0;
     for (int day = a; day <= b; day++) {
       if (mind[day] == 1 << land) {

@@ -17,6 +17,7 @@ public final class PromiseTests {
     sure();
     join();
     joinedPeople();
+    joinAtTheEnds();
     law();
     keptWindow();
     keptStretch();
@@ -43,6 +44,7 @@ public final class PromiseTests {
     weight();
     toss();
     orderOfRefusals();
+    fullBook();
     wildArguments();
     Due.end("PromiseTests");
   }
@@ -374,6 +376,19 @@ public final class PromiseTests {
     is("3: -2 is ahead of -3", book.span(1, 0, 0, 1), -2);
   }
 
+  private static void joinAtTheEnds() {
+    for (int day = 0; day < 400; day += 399) {
+      NightBook book = one(0, 0);
+      book.person(1, 1);
+      book.slept(0, day, 0, false);
+      book.slept(1, day, 1, false);
+      is("11: a night without lands, day " + day, book.join(0, 1), -4);
+      book.drop(0, true);
+      is("11: one came, day " + day, book.join(0, 1), 1);
+      is("11: its night, day " + day, book.can(0, day), 2);
+    }
+  }
+
   private static void law() {
     NightBook book = one(0, 0);
     is("12: told 8", book.law(8, 1, 1), -1);
@@ -529,6 +544,11 @@ public final class PromiseTests {
     is("15: on day n", book.broken(0), 1 << 3 | 1 << 11 | 1 | 1 << 8);
     book.person(0, 0);
     is("15: another person", book.broken(1), 0);
+    NightBook onDay0 = one(0, 0);
+    onDay0.law(21, 1, 200);
+    onDay0.span(0, 0, 0, 1);
+    is("15: on day 0 alone", onDay0.first(0, 0, 1, true), -2);
+    is("15: on day 0 alone", onDay0.broken(0), 1);
     is("15: no person", book.broken(2), -1);
     is("15: person below", book.broken(-1), -1);
   }
@@ -604,6 +624,11 @@ public final class PromiseTests {
     is("16: none before, the rest would be too long", book.trip(0, 1, 10, 19, 0), 15);
     book.law(0, 3, 5);
     is("16: no night alone makes the rest short enough", book.free(0, 1, 10, 19), 0);
+    book = one(0, 0);
+    book.law(30, 2, 0);
+    is("16: absent from the land of rest, from day 0 on", book.free(0, 1, 0, 5), 4);
+    is("16: the first", book.trip(0, 1, 0, 5, 0), 0);
+    is("16: rest on day 2", book.trip(0, 1, 0, 5, 2), 3);
     book = one(0, 0);
     book.law(1, 2, 7);
     is("16: surely, not perhaps", book.free(0, 1, 3, 9), 2);
@@ -716,12 +741,31 @@ public final class PromiseTests {
     is("21: none of the three", book.decides(2, 3, 0, 1), -2);
     book.treaty(0, 2, 0);
     is("21: a treaty without tests", book.decides(0, 2, 0, 0), -2);
+    decidesByNights(book);
     is("21: one land twice", book.decides(0, 0, 0, 0), -1);
     is("21: land above", book.decides(0, 8, 0, 0), -1);
     is("21: land below", book.decides(-1, 1, 0, 0), -1);
     is("21: no person", book.decides(0, 1, 1, 0), -1);
     is("21: year above", book.decides(0, 1, 0, 4), -1);
     is("21: year below", book.decides(0, 1, 0, -1), -1);
+  }
+
+  private static void decidesByNights(NightBook book) {
+    book.treaty(3, 5, 2);
+    book.span(0, 200, 259, 32);
+    book.span(0, 260, 299, 72);
+    is("21: most 40 is not 60", book.decides(3, 5, 0, 2), 5);
+    is("21: the other way round", book.decides(5, 3, 0, 2), 5);
+    book.treaty(5, 6, 2);
+    book.span(0, 300, 349, 96);
+    book.span(0, 350, 399, 64);
+    is("21: least 50 is not above most 50", book.decides(5, 6, 0, 3), -2);
+    is("21: the other way round", book.decides(6, 5, 0, 3), -2);
+    book.treaty(6, 7, 2);
+    book.stamp(0, 0, 0, 6);
+    book.stamp(0, 100, 109, 7);
+    is("21: most above most is not enough", book.decides(6, 7, 0, 1), -2);
+    is("21: the other way round", book.decides(7, 6, 0, 1), -2);
   }
 
   private static void taxed() {
@@ -1008,6 +1052,43 @@ public final class PromiseTests {
     is("6: the one that came can't come back", book.drop(1, false), -4);
     is("11: -3 is ahead of all but -1", book.join(1, 0), -3);
     is("11: -1 is ahead of -3", book.join(1, 7), -1);
+  }
+
+  /** As many of each as there can be: no call goes beyond them. */
+  private static void fullBook() {
+    NightBook book = new NightBook();
+    for (int i = 0; i < 6; i++) {
+      book.person(i, i);
+    }
+    for (int i = 0; i < 80; i++) {
+      book.slept(i % 5, 5 * i, i % 5, false);
+    }
+    for (int i = 0; i < 12; i++) {
+      book.law(10 * (i % 4) + i % 8, i, 10);
+    }
+    for (int land = 0; land < 8; land++) {
+      book.claim(land, 1);
+    }
+    is("7: no mark 80", book.mark(80, 0), -1);
+    is("6: no mark 80", book.drop(80, true), -1);
+    is("25: no mark 80", book.keep(0, 2, 80), -1);
+    is("13: no law 12", book.kept(12, 0, 0), -1);
+    is("25: no law 12", book.keep(0, 1, 12), -1);
+    is("8: no person 6", book.can(6, 0), -1);
+    is("23: each of one land", book.quarrels(), 0);
+    is("24: none dropped", book.count(4), 0);
+    for (int i = 0; i < 80; i++) {
+      is("6: drop", book.drop(i, true), 1);
+    }
+    is("24: all dropped", book.count(4), 80);
+    is("6: mark 79 again", book.drop(79, false), 1);
+    is("8: its night", book.can(4, 395), 16);
+    for (int i = 1; i < 6; i++) {
+      is("11: join", book.join(0, i), i < 5 ? 16 : 0);
+    }
+    is("24: all but one joined", book.count(5), 5);
+    is("8: a night that came", book.can(0, 395), 16);
+    is("15: on day 0 the needs of 2, 6 and 10 nights", book.broken(0), 1 << 2 | 1 << 6 | 1 << 10);
   }
 
   /** No argument makes the machine throw, whatever the state. */
