@@ -1,5 +1,7 @@
 /** Counts the answers that are not as due; a test's main ends with end(). */
 final class Due {
+  private static final int MOST_TOLD = 100;
+
   private static int checked = 0;
   private static int wrong = 0;
 
@@ -11,6 +13,9 @@ final class Due {
     if (got != want) {
       wrong++;
       System.out.println(what + " answered " + got + ", due is " + want);
+      if (wrong >= MOST_TOLD) {
+        end("Too many to be told");
+      }
     }
   }
 

@@ -1094,33 +1094,37 @@ public final class PromiseTests {
   /** No argument makes the machine throw, whatever the state. */
   private static void wildArguments() {
     int[] wild = {LOW, -1, 0, 1, 7, 8, 399, 400, HIGH};
-    NightBook book = one(1, 2);
-    book.law(1, 2, 3);
-    book.span(0, 0, 399, 254);
-    book.make(0, 3, 5);
     for (int a : wild) {
       for (int b : wild) {
+        NightBook book = one(1, 2);
+        book.law(1, 2, 3);
+        book.span(0, 0, 399, 254);
+        book.make(0, 3, 5);
         thrown(book, a, b);
         book.mark(a, b);
         book.drop(a, b > 0);
+        for (int c : wild) {
+          callAll(book, a, b, c);
+        }
         book.keep(a, b, HIGH);
         book.make(a, 3, b);
-        for (int c : wild) {
-          book.span(a, b, c, 1);
-          book.stamp(c, a, b, 1);
-          book.law(a, b, c);
-          book.kept(a, b, c);
-          book.first(a, b, c, true);
-          book.free(0, a, b, c);
-          book.trip(0, 1, a, b, c);
-          book.claims(a, b, c);
-          book.treaty(a, b, c);
-          book.decides(a, b, 0, c);
-          book.copy(0, a, 0, b, c);
-          book.copy(a, 0, b, 0, c);
-        }
       }
     }
     is("no call threw by itself", 1, 1);
+  }
+
+  private static void callAll(NightBook book, int a, int b, int c) {
+    book.span(a, b, c, 1);
+    book.stamp(c, a, b, 1);
+    book.law(a, b, c);
+    book.kept(a, b, c);
+    book.first(a, b, c, true);
+    book.free(0, a, b, c);
+    book.trip(0, 1, a, b, c);
+    book.claims(a, b, c);
+    book.treaty(a, b, c);
+    book.decides(a, b, 0, c);
+    book.copy(0, a, 0, b, c);
+    book.copy(a, 0, b, 0, c);
   }
 }
