@@ -459,6 +459,19 @@ public final class LawEdgeTests {
     is(-2, book.first(0, 0, 200, true));
   }
 
+  static void promise14FirstWhereNight0FallsOutOfTheSpan() {
+    NightBook book = withLaw(NEEDS, 1, 5);
+    book.slept(0, 0, 1, false);
+    book.stamp(0, 1, 399, 1);
+    is(5, book.first(0, 0, 0, true));
+    is(5, book.first(0, 0, 4, false));
+    book = withLaw(ABSENT, 4, 1);
+    book.slept(0, 0, 1, false);
+    book.stamp(0, 1, 399, 1);
+    is(5, book.first(0, 0, 0, true));
+    is(5, book.first(0, 0, 4, false));
+  }
+
   static void promise14FirstOfNeedsAtTheBeginning() {
     NightBook book = withLaw(NEEDS, 2, 4);
     is(0, book.first(0, 0, 0, true));
@@ -610,6 +623,29 @@ public final class LawEdgeTests {
     is(2, book.free(0, 1, 50, 51));
     is(2, book.free(0, 1, 50, 52));
     is(3, book.free(0, 1, 50, 53));
+  }
+
+  static void promise16FreeFromDay0() {
+    NightBook book = withLaw(30, 2, 1);
+    is(3, book.free(0, 1, 0, 3));
+    is(0, book.trip(0, 1, 0, 3, 0));
+    is(1, book.trip(0, 1, 0, 3, 1));
+    is(3, book.trip(0, 1, 0, 3, 2));
+    book = withLaw(STRETCH, 1, 1);
+    is(3, book.free(0, 1, 0, 4));
+    is(0, book.trip(0, 1, 0, 4, 0));
+    is(4, book.trip(0, 1, 0, 4, 2));
+    book = withLaw(WINDOW, 2, 3);
+    is(4, book.free(0, 1, 0, 4));
+    is(3, book.trip(0, 1, 0, 4, 2));
+  }
+
+  static void promise16FreeToDay399() {
+    NightBook book = withLaw(STRETCH, 1, 1);
+    book.stamp(0, 395, 395, 1);
+    is(2, book.free(0, 1, 396, 399));
+    is(398, book.trip(0, 1, 396, 399, 1));
+    is(1, book.free(0, 1, 396, 397));
   }
 
   static void promise16FreeNightsBeforeThatCanHaveBeenThere() {

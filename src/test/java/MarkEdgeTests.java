@@ -147,6 +147,16 @@ public final class MarkEdgeTests {
     is(5, busy.count(0));
   }
 
+  static void promise01NewObjectServes512Calls() {
+    NightBook book = new NightBook();
+    book.person(0, 1);
+    book.span(0, 0, 399, 128);
+    for (int call = 3; call < 512; call++) {
+      is(128, book.can(0, call % 400));
+    }
+    is(1, book.slept(0, 399, 7, false));
+  }
+
   // ---- 2
 
   static void promise02PersonHomeFrom0To7() {
