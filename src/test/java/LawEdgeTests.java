@@ -528,6 +528,15 @@ public final class LawEdgeTests {
     }
   }
 
+  static void promise15BrokenNeedsFromDay0On() {
+    NightBook book = withLaw(NEEDS, 1, 4);
+    is(0, book.broken(0));
+    book.span(0, 0, 399, 2);
+    is(0, book.broken(0));
+    book.law(NEEDS, 2, 4);
+    is(2, book.broken(0));
+  }
+
   static void promise15BrokenByOneIsNotByAnother() {
     NightBook book = withLaw(STRETCH, 0, 1);
     book.person(0, 0);
