@@ -634,6 +634,19 @@ public final class LawEdgeTests {
     is(3, book.free(0, 1, 50, 53));
   }
 
+  static void promise16FreeAbsentFromDayNOnUpToB() {
+    NightBook book = withLaw(35, 5, 1);
+    is(3, book.free(0, 1, 2, 4));
+    is(0, book.free(0, 1, 2, 5));
+    book.slept(0, 0, 5, false);
+    is(4, book.free(0, 1, 2, 5));
+    is(0, book.free(0, 1, 2, 6));
+    is(-2, book.trip(0, 1, 2, 6, 0));
+    book = withLaw(ABSENT, 5, 1);
+    is(5, book.free(0, 1, 2, 6));
+    is(3, book.free(0, 1, 2, 4));
+  }
+
   static void promise16FreeFromDay0() {
     NightBook book = withLaw(30, 2, 1);
     is(3, book.free(0, 1, 0, 3));
